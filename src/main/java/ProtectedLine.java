@@ -11,24 +11,28 @@ public final class ProtectedLine {
 
     private static final int NONE = -1;
 
+    private final StreamSource source;
     private final NodeA nodeA;
     private final Line working;
     private final Line protection;
     private final BackLine back;
     private final Switch nodeB;
+    private final StreamReader stream;
     private final PointerReader reader;
 
     public ProtectedLine(int working, int protection, int hold, int wait) {
-        this.nodeA = new NodeA();
+        this.source = new StreamSource();
+        this.nodeA = new NodeA(new ContainerSource(this.source));
         this.working = new Line(delayOf(working));
         this.protection = new Line(delayOf(protection));
         this.back = new BackLine(delayOf(protection));
         this.nodeB = new Switch(hold & 7, wait & 7);
-        this.reader = new PointerReader();
+        this.stream = new StreamReader();
+        this.reader = new PointerReader(this.stream);
     }
 
     public boolean send(int n, long bytes) {
-        return nodeA.containers.stream.enqueue(n, bytes);
+        return source.enqueue(n, bytes);
     }
 
     public boolean tick(int n) {
@@ -70,7 +74,7 @@ public final class ProtectedLine {
     }
 
     public int waiting() {
-        return nodeA.containers.stream.queued;
+        return source.queued;
     }
 
     public int sent(int line, int place) {
@@ -106,19 +110,19 @@ public final class ProtectedLine {
     }
 
     public int sync() {
-        return reader.stream.state;
+        return stream.state;
     }
 
     public int delivered() {
-        return reader.stream.good;
+        return stream.good;
     }
 
     public int dropped() {
-        return reader.stream.bad;
+        return stream.bad;
     }
 
     public int got(int k, int i) {
-        return reader.stream.kept(k, i);
+        return stream.kept(k, i);
     }
 
     /** The order of the steps is the document's; the numbers are its numbers. */
@@ -172,26 +176,26 @@ public final class ProtectedLine {
             return h;
         }
 
-        static int secondOf(int length) {
-            return hash(length) ^ SECOND_MASK;
-        }
-
         /** The L of a header, NONE when the two bytes are none. */
         static int lengthIn(int b, int e) {
             int length = b ^ FIRST_MASK;
-            return secondOf(length) == e ? length : NONE;
+            return hash(length) == (e ^ SECOND_MASK) ? length : NONE;
         }
 
         /** As lengthIn, but one wrong bit is put right. */
         static int lengthRepaired(int b, int e) {
-            int length = lengthIn(b, e);
-            for (int bit = 1; bit < 256 && length == NONE; bit *= 2) {
-                length = lengthIn(b ^ bit, e);
-                if (length == NONE) {
-                    length = lengthIn(b, e ^ bit);
+            int length = b ^ FIRST_MASK;
+            int due = e ^ SECOND_MASK;
+            if (Integer.bitCount(hash(length) ^ due) <= 1) {
+                return length;
+            }
+            for (int i = 0; i < 8; i++) {
+                int changed = length ^ 1 << i;
+                if (hash(changed) == due) {
+                    return changed;
                 }
             }
-            return length;
+            return NONE;
         }
 
         static int pointerByte(int p) {
@@ -205,34 +209,52 @@ public final class ProtectedLine {
         }
     }
 
-    /** The client frames that wait at A, and the stream that is made of them. */
+    /**
+     * The client frames that wait at A, and the stream that is made of them. A frame is made ready,
+     * scrambling and all, when it is sent: frames come into the stream in that same order.
+     */
     private static final class StreamSource {
         private static final int MOST_WAITING = 8;
+        private static final int MOST_LENGTH = Code.MOST_BYTES + 3;
 
-        private final int[] sizes = new int[MOST_WAITING];
-        private final long[] contents = new long[MOST_WAITING];
+        private final int[] ready = new int[MOST_WAITING * MOST_LENGTH];
+        private final int[] lengths = new int[MOST_WAITING];
         private int oldest;
         private int queued;
-
-        // The frame or idle of which bytes are being taken, whole and scrambled.
-        private final int[] current = new int[Code.MOST_BYTES + 3];
-        private int length;
-        private int position;
         private int before;
 
+        // The frame or idle of which bytes are being taken: its place in the row may be filled anew.
+        private final int[] current = new int[MOST_LENGTH];
+        private int length;
+        private int position;
+
         boolean enqueue(int n, long bytes) {
-            if (n < 1 || n > Code.MOST_BYTES || queued == MOST_WAITING) {
+            if (n < 1 || n > Code.MOST_BYTES || queued >= MOST_WAITING) {
                 return false;
             }
             int slot = (oldest + queued) % MOST_WAITING;
-            sizes[slot] = n;
-            contents[slot] = bytes;
+            makeReady(slot * MOST_LENGTH, n, bytes);
+            lengths[slot] = n + 3;
             queued++;
             return true;
         }
 
+        private void makeReady(int start, int n, long bytes) {
+            ready[start] = n + 1 ^ Code.FIRST_MASK;
+            ready[start + 1] = Code.hash(n + 1) ^ Code.SECOND_MASK;
+            int check = Code.CHECK_START;
+            for (int i = 0; i < n; i++) {
+                int b = (int) (bytes >> 8 * i) & 255;
+                check = Code.hash(check ^ b);
+                before ^= b;
+                ready[start + 2 + i] = before;
+            }
+            before ^= check;
+            ready[start + 2 + n] = before;
+        }
+
         int nextByte() {
-            if (position == length) {
+            if (position >= length) {
                 begin();
             }
             int b = current[position];
@@ -242,46 +264,31 @@ public final class ProtectedLine {
 
         private void begin() {
             position = 0;
-            length = 0;
             if (queued == 0) {
-                addHeader(0);
+                current[0] = Code.FIRST_MASK;
+                current[1] = Code.SECOND_MASK;
+                length = 2;
                 return;
             }
-            int n = sizes[oldest];
-            long bytes = contents[oldest];
+            length = lengths[oldest];
+            System.arraycopy(ready, oldest * MOST_LENGTH, current, 0, length);
             oldest = (oldest + 1) % MOST_WAITING;
             queued--;
-            addHeader(n + 1);
-            int check = Code.CHECK_START;
-            for (int i = 0; i < n; i++) {
-                int b = (int) (bytes >> 8 * i) & 255;
-                addScrambled(b);
-                check = Code.hash(check ^ b);
-            }
-            addScrambled(check);
-        }
-
-        private void addHeader(int l) {
-            current[0] = l ^ Code.FIRST_MASK;
-            current[1] = Code.secondOf(l);
-            length = 2;
-        }
-
-        private void addScrambled(int b) {
-            before ^= b;
-            current[length] = before;
-            length++;
         }
     }
 
     /** The stream in containers, byte by byte. */
     private static final class ContainerSource {
-        private final StreamSource stream = new StreamSource();
+        private final StreamSource source;
         private int place;
         private int joined;
 
+        ContainerSource(StreamSource source) {
+            this.source = source;
+        }
+
         int nextByte() {
-            int b = place == 0 ? joined : stream.nextByte();
+            int b = place == 0 ? joined : source.nextByte();
             joined = place == 0 ? b : joined ^ b;
             place = place == CONTAINER - 1 ? 0 : place + 1;
             return b;
@@ -310,13 +317,17 @@ public final class ProtectedLine {
         private static final int REST = 3;
         private static final int[] EMPTY = {255, 255, 255, 255, 255, 255, 255, 255};
 
-        private final ContainerSource containers = new ContainerSource();
+        private final ContainerSource containers;
         private final Listener heard = new Listener();
         // Places 4 .. 11 of the frame, without the row.
         private final int[] content = new int[PLACES - 4];
         private int p;
         private int debt;
         private int rest;
+
+        NodeA(ContainerSource containers) {
+            this.containers = containers;
+        }
 
         boolean owe(int n) {
             if (n < -MOST_DEBT - debt || n > MOST_DEBT - debt) {
@@ -575,7 +586,7 @@ public final class ProtectedLine {
         private static final int STRANGE_ROW = 8;
         private static final int GAP_ROW = 3;
 
-        private final StreamReader stream = new StreamReader();
+        private final StreamReader stream;
         private int v = LOST;
         private int gapRow;
         private int plainRow;
@@ -585,6 +596,10 @@ public final class ProtectedLine {
         private int sinceFirst;
         private int joined;
         private int errorBits;
+
+        PointerReader(StreamReader stream) {
+            this.stream = stream;
+        }
 
         void gap() {
             gapRow++;
@@ -599,21 +614,46 @@ public final class ProtectedLine {
 
         void take(Line line) {
             gapRow = 0;
-            int x = line.plainAt(4);
-            int shift = v == LOST ? 0 : shiftIn(x);
-            if (v == LOST) {
-                seek(x);
-            } else if (shift != 0 || x == Code.pointerByte(v)) {
-                endRows();
-            } else {
-                doubt(x);
-            }
+            int shift = follow(line.plainAt(4));
             if (v == LOST) {
                 breakOff();
                 return;
             }
-            read(line, 6 + shift);
+            int start = 6 + shift;
+            for (int place = start; place < PLACES; place++) {
+                int b = line.plainAt(place);
+                if ((place - start) % CONTAINER == v) {
+                    beginContainer(b);
+                } else {
+                    joined ^= b;
+                    sinceFirst = sinceFirst == 0 ? 0 : sinceFirst + 1;
+                    stream.give(b);
+                }
+            }
             v = (v + shift + CONTAINER) % CONTAINER;
+        }
+
+        private void beginContainer(int first) {
+            if (sinceFirst == CONTAINER) {
+                errorBits += Integer.bitCount(first ^ joined);
+            }
+            joined = first;
+            sinceFirst = 1;
+        }
+
+        /** Sets the v that holds for a frame with the pointer byte x, and answers its shift. */
+        private int follow(int x) {
+            if (v == LOST) {
+                seek(x);
+                return 0;
+            }
+            int shift = shiftIn(x);
+            if (shift != 0 || x == Code.pointerByte(v)) {
+                endRows();
+            } else {
+                doubt(x);
+            }
+            return shift;
         }
 
         /** 1, -1 or 0: how x says that the frame is justified. */
@@ -669,27 +709,6 @@ public final class ProtectedLine {
         private void breakOff() {
             sinceFirst = 0;
             stream.hunt();
-        }
-
-        private void read(Line line, int start) {
-            for (int place = start; place < PLACES; place++) {
-                int b = line.plainAt(place);
-                if ((place - start) % CONTAINER == v) {
-                    judge(b);
-                    joined = b;
-                    sinceFirst = 1;
-                } else {
-                    joined ^= b;
-                    sinceFirst = sinceFirst == 0 ? 0 : sinceFirst + 1;
-                    stream.give(b);
-                }
-            }
-        }
-
-        private void judge(int first) {
-            if (sinceFirst == CONTAINER) {
-                errorBits += Integer.bitCount(first ^ joined);
-            }
         }
     }
 
@@ -769,8 +788,8 @@ public final class ProtectedLine {
         private void endFrame(int last) {
             if (length >= 2 && length <= Code.MOST_BYTES + 1 && last == check) {
                 good++;
-                sizes[good % KEPT] = length - 1;
-                System.arraycopy(frame, 0, contents, startOf(good), length - 1);
+                sizes[slotOf(good)] = length - 1;
+                System.arraycopy(frame, 0, contents, slotOf(good) * Code.MOST_BYTES, length - 1);
             } else {
                 bad++;
             }
@@ -780,15 +799,15 @@ public final class ProtectedLine {
             if (k < 0 || k >= KEPT || k >= good) {
                 return NONE;
             }
-            int size = sizes[(good - k) % KEPT];
+            int slot = slotOf(good - k);
             if (i == -1) {
-                return size;
+                return sizes[slot];
             }
-            return i >= 0 && i < size ? contents[startOf(good - k) + i] : NONE;
+            return i >= 0 && i < sizes[slot] ? contents[slot * Code.MOST_BYTES + i] : NONE;
         }
 
-        private static int startOf(int number) {
-            return number % KEPT * Code.MOST_BYTES;
+        private static int slotOf(int number) {
+            return number & KEPT - 1;
         }
     }
 }
