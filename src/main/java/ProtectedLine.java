@@ -21,14 +21,16 @@ public final class ProtectedLine {
     private final PointerReader reader;
 
     public ProtectedLine(int working, int protection, int hold, int wait) {
-        this.source = new StreamSource();
-        this.nodeA = new NodeA(new ContainerSource(this.source));
+        StreamSource clientFrames = new StreamSource();
+        this.source = clientFrames;
+        this.nodeA = new NodeA(new ContainerSource(clientFrames));
         this.working = new Line(delayOf(working));
         this.protection = new Line(delayOf(protection));
         this.back = new BackLine(delayOf(protection));
         this.nodeB = new Switch(hold & 7, wait & 7);
-        this.stream = new StreamReader();
-        this.reader = new PointerReader(this.stream);
+        StreamReader streamReader = new StreamReader();
+        this.stream = streamReader;
+        this.reader = new PointerReader(streamReader);
     }
 
     public boolean send(int n, long bytes) {

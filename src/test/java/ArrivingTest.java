@@ -19,6 +19,7 @@ public final class ArrivingTest {
         test.bridged();
         test.bridgedByThree();
         test.selected();
+        test.selectedWhileWaiting();
         test.selectedByK();
         test.pointerFound();
         test.pointerBits();
@@ -324,6 +325,17 @@ public final class ArrivingTest {
         due.is("14: both have failed", y.selected(), 0);
     }
 
+    private void selectedWhileWaiting() {
+        ProtectedLine x = mended(3);
+        for (int i = 0; i < 3; i++) {
+            x.tick(1);
+            due.is("14: B waits", x.request(), 1);
+            due.is("14: line 1 while B waits", x.selected(), 1);
+        }
+        x.tick(1);
+        due.is("14: line 0 behind that", x.selected(), 0);
+    }
+
     private void selectedByK() {
         ProtectedLine x = ready();
         x.command(1);
@@ -398,18 +410,22 @@ public final class ArrivingTest {
     }
 
     private void pointerBits() {
-        for (int d = 0; d < 256; d++) {
-            ProtectedLine x = ready();
-            damaged(x, 4, d);
-            int up = Integer.bitCount(d & (1 + 4 + 16));
-            int down = Integer.bitCount(d & (2 + 8 + 32));
-            int want = 0;
-            if (d < 64 && up >= 2 && down <= 1) {
-                want = 1;
-            } else if (d < 64 && down >= 2 && up <= 1) {
-                want = 5;
+        for (int v = 0; v < 6; v++) {
+            for (int d = 0; d < 256; d++) {
+                ProtectedLine x = ready();
+                x.drift(v);
+                x.tick(30);
+                damaged(x, 4, d);
+                int up = Integer.bitCount(d & (1 + 4 + 16));
+                int down = Integer.bitCount(d & (2 + 8 + 32));
+                int want = v;
+                if (d < 64 && up >= 2 && down <= 1) {
+                    want = (v + 1) % 6;
+                } else if (d < 64 && down >= 2 && up <= 1) {
+                    want = (v + 5) % 6;
+                }
+                due.is("15: pointer " + v + " behind the bits " + d, x.pointer(), want);
             }
-            due.is("15: pointer behind the bits " + d, x.pointer(), want);
         }
     }
 
@@ -607,6 +623,15 @@ public final class ArrivingTest {
         damaged(x, 4, TO_GAP);
         x.tick(3);
         due.is("16: a gap between", x.pathErrors(), 0);
+        x.drift(5);
+        x.tick(30);
+        due.is("16: v 5", x.pointer(), 5);
+        for (int i = 0; i < 4; i++) {
+            damaged(x, 4, 109 ^ 255);
+            damaged(x, 8, 1);
+            x.tick(2);
+            due.is("16: five bytes behind a gap", x.pathErrors(), 0);
+        }
 
         ProtectedLine y = ready();
         for (int i = 0; i < 7; i++) {
@@ -620,16 +645,19 @@ public final class ArrivingTest {
         y.tick(5);
         due.is("16: LOST between", y.pathErrors(), 0);
 
-        // The third for 1 holds for its frame: its first byte is no sixth behind the one before.
-        ProtectedLine z = ready();
-        damaged(z, 4, 9);
-        damaged(z, 4, 9);
-        z.damage(0, 4, 9);
-        z.damage(0, 6, 255);
-        z.damage(0, 7, 255);
-        z.tick(1);
-        due.is("16: v was changed between", z.pathErrors(), 0);
-        due.is("16: v", z.pointer(), 1);
+        // The third for q holds for its frame: its first byte is no sixth behind the one before.
+        for (int q = 1; q < 6; q++) {
+            for (int bits = 0; bits < 256; bits += 15) {
+                ProtectedLine z = ready();
+                damaged(z, 4, 9 * q);
+                damaged(z, 4, 9 * q);
+                z.damage(0, 4, 9 * q);
+                z.damage(0, 6 + q, bits);
+                z.tick(1);
+                due.is("16: v was changed between", z.pathErrors(), 0);
+                due.is("16: v", z.pointer(), q);
+            }
+        }
         ProtectedLine w = ready();
         w.damage(0, 4, 128);
         w.damage(0, 6, 255);

@@ -22,6 +22,7 @@ public final class SendingTest {
         test.waiting();
         test.sent();
         test.sentStream();
+        test.sentCheck();
         test.sentK();
         test.due.end("SendingTest");
     }
@@ -396,6 +397,15 @@ public final class SendingTest {
                 parity ^= b;
             }
         }
+    }
+
+    /** H(127), the check of 128, is 122, as 127 is below 128. */
+    private void sentCheck() {
+        ProtectedLine x = new ProtectedLine(0, 0, 0, 0);
+        x.send(1, 128);
+        x.tick(1);
+        due.is("9: the byte", x.sent(0, 9) ^ ROW[7], 128);
+        due.is("9: its check", x.sent(0, 10) ^ ROW[8], 128 ^ 122);
     }
 
     /** With delay 2 B asks for LOCKOUT in ticks 1 to 3, so A accepts 5 in tick 5 and gives it back. */

@@ -21,6 +21,7 @@ public final class StreamTest {
         test.scrambling();
         test.checks();
         test.otherLengths();
+        test.otherLengthsWithCheck();
         test.brokenOff();
         test.passedOver();
         test.got();
@@ -164,21 +165,21 @@ public final class StreamTest {
         // HUNT anew: the last byte before a gap and the first behind it are not one behind the other.
         ProtectedLine y = ready();
         damaged(y, 4, TO_GAP);
-        // In tick 14 there come 60 .. 64; only 64 (182) is left as it is.
+        // In tick 14 there come 60 .. 64, no header in them; 64 becomes the first byte of one for L 200.
         for (int place = 7; place < 11; place++) {
             y.damage(0, place, 0x11 * (place - 5));
         }
-        y.tick(1);
+        damaged(y, 11, 200);
         due.is("17: no header in it", y.sync(), 0);
         damaged(y, 4, TO_GAP);
-        // In tick 16 there come 70 .. 74: 171 first, then nothing that is a header.
-        y.damage(0, 7, 182 ^ 171);
+        // In tick 16 there come 70 .. 74: the second byte of that header, then nothing that is one.
+        y.damage(0, 7, 182 ^ 171 ^ Model.h(200));
         y.damage(0, 8, 0x33);
         y.damage(0, 9, 0x5a);
         y.damage(0, 10, 0x33);
         y.damage(0, 11, 0x5a);
         y.tick(1);
-        due.is("17: 182, a gap, 171 are no header", y.sync(), 0);
+        due.is("17: two bytes with a gap between are no header", y.sync(), 0);
         // Each frame while LOST makes HUNT begin too.
         ProtectedLine z = ready();
         for (int i = 0; i < 7; i++) {
@@ -291,6 +292,30 @@ public final class StreamTest {
         counts("19: eight bytes are never a client frame", eight, 0, 1);
         ProtectedLine zero = withLength(0);
         counts("19: an idle", zero, 0, 0);
+    }
+
+    /** One byte that is the check of none, and seven with their check. */
+    private void otherLengthsWithCheck() {
+        ProtectedLine one = ready();
+        one.damage(0, 8, 1);
+        one.damage(0, 9, Model.h(1));
+        damaged(one, 10, 182 ^ 255);
+        counts("19: a check alone", one, 0, 1);
+
+        // 58 .. 65 with the scrambling undone, and 65 made the check.
+        ProtectedLine eight = withLength(8);
+        int check = Model.checkOf(new int[] {182, 29, 29, 29, 29, 29, 29}, 7);
+        eight.tick(1);
+        damaged(eight, 7, 29 ^ check);
+        counts("19: seven bytes and their check", eight, 0, 1);
+
+        // The same for six bytes, which are a client frame.
+        ProtectedLine seven = withLength(7);
+        damaged(seven, 11, 29 ^ Model.checkOf(new int[] {182, 29, 29, 29, 29, 29}, 6));
+        counts("18: six bytes and their check", seven, 1, 0);
+        due.is("20: six bytes", seven.got(0, -1), 6);
+        due.is("20: the first byte", seven.got(0, 0), 182);
+        due.is("20: the sixth byte", seven.got(0, 5), 29);
     }
 
     private void brokenOff() {
