@@ -4,13 +4,19 @@ final class Due {
 
     private int asked = 0;
     private int wrong = 0;
+    private String sentence = "";
+
+    /** What the answers asked from now on are about, in the document's words. */
+    void of(String words) {
+        sentence = "[" + words + "] ";
+    }
 
     void is(String call, long got, long want) {
         asked++;
         if (got != want) {
             wrong++;
             if (wrong <= MOST_PRINTED) {
-                System.out.println(call + " answered " + got + ", due is " + want);
+                System.out.println(sentence + call + " answered " + got + ", due is " + want);
             }
         }
     }
